@@ -348,6 +348,8 @@ public final class VitalTwin {
         /** Where the token begins. */
         int place;
         int tokenLength;
+        /** The signs of the token, if it is a NAME or a NUMBER. */
+        final byte[] signs = new byte[NAME_SIGNS];
         /** How many ( [ { ? and - ! in front hold what is read now. */
         int nested;
         int fault;
@@ -372,22 +374,22 @@ public final class VitalTwin {
 
         /** How many signs eight bytes hold; NONE if one is no sign. */
         private static int signsOf(long bytes) {
-            int signs = 0;
+            int found = 0;
             for (int shift = 56; shift >= 0; shift -= 8) {
                 int sign = (int) (bytes >>> shift) & 255;
                 if (sign != 0) {
                     if (sign != 10 && (sign < 32 || sign > 126)) {
                         return NONE;
                     }
-                    signs++;
+                    found++;
                 }
             }
-            return signs;
+            return found;
         }
 
-        private void makeRoom(int signs) {
-            if (signs > tape.length) {
-                byte[] wider = new byte[Math.max(signs, 2 * tape.length)];
+        private void makeRoom(int due) {
+            if (due > tape.length) {
+                byte[] wider = new byte[Math.max(due, 2 * tape.length)];
                 System.arraycopy(tape, 0, wider, 0, length);
                 tape = wider;
             }
@@ -427,10 +429,10 @@ public final class VitalTwin {
             next();
         }
 
-        private void addToken(int kind, int where, int signs) {
+        private void addToken(int kind, int where, int itsLength) {
             if (kind != BETWEEN && many < kinds.length) {
                 kinds[many] = (byte) kind;
-                spots[many] = 32 * where + Math.min(31, signs);
+                spots[many] = 32 * where + Math.min(31, itsLength);
                 many++;
             }
         }
@@ -489,14 +491,14 @@ public final class VitalTwin {
             return MARKS.indexOf((char) sign) >= 0 ? sign : NO_TOKEN;
         }
 
-        private int wordOrName(int k, int signs) {
+        private int wordOrName(int k, int itsLength) {
             int word = K_CONST;
             int matched = 0;
             boolean same = true;
             for (int n = 0; n < KEYWORDS.length(); n++) {
                 char sign = KEYWORDS.charAt(n);
                 if (sign == ' ') {
-                    if (same && matched == signs) {
+                    if (same && matched == itsLength) {
                         return word;
                     }
                     word++;
@@ -542,21 +544,11 @@ public final class VitalTwin {
 
         /** What the token tells, if it is a NUMBER. */
         int number() {
-            return (int) numberAt(place, tokenLength);
-        }
-
-        int signOfToken(int k) {
-            return k < 0 || k >= tokenLength ? 0 : signAt(place + k);
-        }
-
-        /** Is the token what stands in the row from start on? */
-        boolean isIn(byte[] row, int start) {
-            for (int k = 0; k < tokenLength; k++) {
-                if (start + k >= row.length || row[start + k] != signAt(place + k)) {
-                    return false;
-                }
+            int number = 0;
+            for (int k = 0; k < tokenLength && k < signs.length; k++) {
+                number = 10 * number + signs[k] - '0';
             }
-            return true;
+            return number;
         }
 
         /** Looks at the next token; behind the END there is none. */
@@ -566,6 +558,11 @@ public final class VitalTwin {
                 token = kinds[at] & 255;
                 place = spots[at] / 32;
                 tokenLength = spots[at] % 32;
+            }
+            if (token == NAME || token == NUMBER) {
+                for (int k = 0; k < tokenLength && k < signs.length && place + k < tape.length; k++) {
+                    signs[k] = tape[place + k];
+                }
             }
         }
 
@@ -582,8 +579,11 @@ public final class VitalTwin {
             next();
         }
 
-        /** What stands behind the token stands one deeper; whoever calls it takes 1 from nested at the end of that. */
-        void deepen() {
+        /** What stands behind the mark stands one deeper; whoever calls it takes 1 from nested at the end of that. */
+        void open(int mark) {
+            if (token != mark) {
+                fail(BAD_TOKEN, place);
+            }
             if (nested >= MOST_NESTED) {
                 fail(TOO_MUCH, place);
             }
@@ -591,16 +591,12 @@ public final class VitalTwin {
             next();
         }
 
-        void open(int mark) {
+        void close(int mark) {
             if (token != mark) {
                 fail(BAD_TOKEN, place);
             }
-            deepen();
-        }
-
-        void close(int mark) {
-            expect(mark);
             nested--;
+            next();
         }
     }
 
@@ -682,6 +678,7 @@ public final class VitalTwin {
         final Code code = new Code();
         int told;
         int cells;
+        /** The first INSTRUCTION of cycle; NONE while funs are read. */
         int start;
         int bound;
         int ins;
@@ -693,7 +690,7 @@ public final class VitalTwin {
             code.clear();
             told = 0;
             cells = 0;
-            start = 0;
+            start = NONE;
             bound = 0;
             ins = 0;
             outs = 0;
@@ -710,14 +707,28 @@ public final class VitalTwin {
 
         /** The visible SYMBOL that the token names, or null. */
         Symbol find(Reader reader) {
-            for (int i = 0; i < told; i++) {
-                Symbol known = at(i);
-                if (known != null && known.visible && known.nameLength == reader.tokenLength
-                        && reader.isIn(names, i * NAME_SIGNS)) {
-                    return known;
+            for (int i = 0; i < told && i < symbols.length; i++) {
+                Symbol known = symbols[i];
+                if (known != null && known.visible && known.nameLength == reader.tokenLength) {
+                    int k = 0;
+                    while (k < known.nameLength && names[i * NAME_SIGNS + k] == reader.signs[k]) {
+                        k++;
+                    }
+                    if (k == known.nameLength) {
+                        return known;
+                    }
                 }
             }
             return null;
+        }
+
+        /** The greatest that a value of this type can be, that of an INT being itself. */
+        int highOf(int type, int itself) {
+            if (type == INT) {
+                return itself;
+            }
+            int i = type - ENUM;
+            return i >= 0 && i < told && symbols[i] != null ? symbols[i].high : 1;
         }
 
         /** Tells the name that the token is; full: there is no room for one more of its kind. */
@@ -737,9 +748,10 @@ public final class VitalTwin {
                 symbols[told] = made;
             }
             made.begin(kind);
+            // a NAME is never longer than the rows have room for
             made.nameLength = Math.min(NAME_SIGNS, reader.tokenLength);
             for (int k = 0; k < made.nameLength; k++) {
-                names[made.number * NAME_SIGNS + k] = (byte) reader.signOfToken(k);
+                names[made.number * NAME_SIGNS + k] = reader.signs[k];
             }
             told++;
             reader.next();
@@ -766,21 +778,6 @@ public final class VitalTwin {
             }
         }
 
-        /** The in or out that has the k-th cell of all of its kind, or null. */
-        Symbol portOf(int kind, int k) {
-            int rest = k;
-            for (int i = 0; i < told && rest >= 0; i++) {
-                Symbol known = at(i);
-                if (known != null && known.kind == kind) {
-                    if (rest < known.length) {
-                        return known;
-                    }
-                    rest -= known.length;
-                }
-            }
-            return null;
-        }
-
         /** The cell that is the k-th of all in or out, or NONE. */
         int cellOf(int kind, int k) {
             int rest = k;
@@ -794,6 +791,18 @@ public final class VitalTwin {
                 }
             }
             return NONE;
+        }
+
+        /** The in or out that has the k-th cell of all of its kind, or null. */
+        Symbol portOf(int kind, int k) {
+            int cell = cellOf(kind, k);
+            for (int i = 0; i < told && cell >= 0; i++) {
+                Symbol known = at(i);
+                if (known != null && known.kind == kind && cell >= known.cell && cell < known.cell + known.length) {
+                    return known;
+                }
+            }
+            return null;
         }
 
         int answer(int what) {
@@ -894,7 +903,7 @@ public final class VitalTwin {
                 homes[i] = home;
             }
             size++;
-            spend(1);
+            bound = Math.min(MOST_BOUND, bound + 1);
         }
 
         /** An INSTRUCTION that leaves A alone: its number. */
@@ -952,10 +961,23 @@ public final class VitalTwin {
 
         /** MOVE, LOAD T, the OP, for the T that was kept last. */
         void combine(int op, int low, int high) {
-            add(MOVE, 0);
-            temps = Math.max(0, temps - 1);
-            loadTemp(temps);
-            set(op, 0, low, high);
+            put(MOVE, 0, 0, 1, 0, 0);
+            temps = Math.max(0, Math.min(ROOM_FOR_TEMPS, temps) - 1);
+            put(LOAD, temps, 0, tempLows[temps], tempHighs[temps], homeOfTemps());
+            put(op, 0, 0, low, high, 0);
+        }
+
+        /** Takes what is kept in a TEMP to a parameter. */
+        void pass(int temp, Symbol parameter) {
+            boolean known = temp >= 0 && temp < ROOM_FOR_TEMPS;
+            put(LOAD, temp, 0, known ? tempLows[temp] : 0, known ? tempHighs[temp] : 0, homeOfTemps());
+            put(STORE, parameter.cell, 0, 1, 0, homeOf(parameter));
+        }
+
+        void call(Symbol fun) {
+            put(CALL, fun.cell, 0, 1, 0, 0);
+            deepest = Math.max(deepest, fun.level);
+            spend(fun.bound);
         }
 
         void spend(long more) {
@@ -1029,7 +1051,13 @@ public final class VitalTwin {
                 type = INT;
                 value = reader.number();
             } else if (reader.token == NAME) {
-                take(program.find(reader));
+                Symbol named = program.find(reader);
+                boolean isOne = named != null && (named.kind == IS_CONST || named.kind == IS_MEMBER);
+                if (!isOne) {
+                    reader.fail(BAD_NAME, reader.place);
+                }
+                type = isOne ? named.type : INT;
+                value = isOne ? named.value : 0;
             } else if (!minus && (reader.token == K_TRUE || reader.token == K_FALSE)) {
                 type = BOOL;
                 value = reader.token == K_TRUE ? 1 : 0;
@@ -1042,15 +1070,6 @@ public final class VitalTwin {
             value = minus ? -value : value;
             reader.next();
             return value;
-        }
-
-        private void take(Symbol named) {
-            if (named == null || named.kind != IS_CONST && named.kind != IS_MEMBER) {
-                reader.fail(BAD_NAME, reader.place);
-                return;
-            }
-            type = named.type;
-            value = named.value;
         }
 
         /** Asks of the C that was read that it is not below the one ahead of it. */
@@ -1074,7 +1093,7 @@ public final class VitalTwin {
             if (reader.token != '[') {
                 return;
             }
-            reader.deepen();
+            reader.open('[');
             told.array = true;
             told.length = read(INT);
             if (told.length < 1 || told.length > 4096) {
@@ -1101,19 +1120,6 @@ public final class VitalTwin {
             int high = read(INT);
             askNotBelow(low);
             told.setType(INT, low, high);
-        }
-
-        /** The ends of what a value of this type can be, that of an INT being itself. */
-        int lowOf(int ofType, int itself) {
-            return ofType == INT ? itself : 0;
-        }
-
-        int highOf(int ofType, int itself) {
-            if (ofType <= BOOL) {
-                return ofType == INT ? itself : 1;
-            }
-            Symbol told = program.at(ofType - ENUM);
-            return told == null ? 0 : told.high;
         }
     }
 
@@ -1171,20 +1177,41 @@ public final class VitalTwin {
                 } else {
                     operand();
                 }
-                int level = levelOf(reader.token);
-                finishDownTo(base, level == COMPARES ? SUMS : level);
-                boolean secondCompare = level == COMPARES && pending > base && levels[pending - 1] == COMPARES;
-                more = level > 0 && !secondCompare;
+                int level = levelOfNext(base);
+                for (int m = 0; m < ROOM && pending > base && levels[pending - 1] >= level; m++) {
+                    pending--;
+                    finish();
+                    if (levels[pending] <= BOTHS) {
+                        code.land(jumps[pending]);
+                    } else if (levels[pending] == FRONTS) {
+                        reader.nested--;
+                        code.set(opOf(marks[pending], true), 0, low, high);
+                    } else {
+                        code.combine(opOf(marks[pending], false), low, high);
+                    }
+                }
+                more = level > 0;
                 if (more) {
                     begin(level);
-                } else {
-                    finishDownTo(base, 0);
                 }
             }
             if (reader.token == '?') {
                 choice();
             }
             from = start;
+        }
+
+        /** The level of the token as an operator of this e; 0 where the e ends, as it does at its second comparison. */
+        private int levelOfNext(int base) {
+            int level = levelOf(reader.token);
+            if (level == COMPARES) {
+                for (int k = base; k < pending; k++) {
+                    if (levels[k] == COMPARES) {
+                        return 0;
+                    }
+                }
+            }
+            return level;
         }
 
         private static int levelOf(int token) {
@@ -1215,7 +1242,7 @@ public final class VitalTwin {
         private void readFronts() {
             for (int n = 0; n < MANY && (reader.token == '-' || reader.token == '!'); n++) {
                 push(FRONTS, NONE);
-                reader.deepen();
+                reader.open(reader.token);
             }
         }
 
@@ -1245,55 +1272,55 @@ public final class VitalTwin {
             reader.next();
         }
 
-        /** The last operand of all pending operators from this level on is read to its end. */
-        private void finishDownTo(int base, int level) {
-            for (int n = 0; n < ROOM && pending > base && levels[pending - 1] >= level; n++) {
-                pending--;
-                if (levels[pending] == FRONTS) {
-                    finishFront();
-                } else if (levels[pending] <= BOTHS) {
-                    ask(types[pending] == BOOL && type == BOOL, places[pending]);
-                    code.land(jumps[pending]);
-                } else if (levels[pending] == COMPARES) {
-                    finishCompare();
-                } else {
-                    finishSum();
-                }
+        /** The last operand of the operator is read to its end: asks what is asked, and makes it what was read. */
+        private void finish() {
+            int first = types[pending];
+            switch (levels[pending]) {
+                case FRONTS:
+                    askType(type == (marks[pending] == '-' ? INT : BOOL));
+                    if (type == INT) {
+                        set(INT, -high, -low);
+                    }
+                    break;
+                case EITHERS:
+                case BOTHS:
+                    askType(first == BOOL && type == BOOL);
+                    break;
+                case COMPARES:
+                    boolean ofAny = marks[pending] == SAME || marks[pending] == OTHER;
+                    askType(first == type && (ofAny || type == INT));
+                    set(BOOL, 0, 1);
+                    break;
+                default:
+                    askType(first == INT && type == INT);
+                    finishSum(marks[pending], lows[pending], highs[pending]);
             }
         }
 
-        private void ask(boolean rightTypes, int place) {
-            if (!rightTypes) {
-                reader.fail(BAD_TYPE, place);
+        private void askType(boolean right) {
+            if (!right) {
+                reader.fail(BAD_TYPE, places[pending]);
             }
         }
 
-        private void set(int newType, long newLow, long newHigh) {
+        private void set(int newType, int newLow, int newHigh) {
             type = newType;
-            low = (int) newLow;
-            high = (int) newHigh;
+            low = newLow;
+            high = newHigh;
         }
 
-        private void finishFront() {
-            boolean minus = marks[pending] == '-';
-            ask(type == (minus ? INT : BOOL), places[pending]);
-            if (minus) {
-                set(INT, -high, -low);
-            }
-            code.set(minus ? NEG : NOT, 0, low, high);
-            reader.nested--;
-        }
-
-        private void finishCompare() {
-            int mark = marks[pending];
-            boolean ofAny = mark == SAME || mark == OTHER;
-            ask(types[pending] == type && (ofAny || type == INT), places[pending]);
-            set(BOOL, 0, 1);
-            code.combine(compareOf(mark), 0, 1);
-        }
-
-        private static int compareOf(int mark) {
+        private static int opOf(int mark, boolean inFront) {
             switch (mark) {
+                case '+':
+                    return ADD;
+                case '-':
+                    return inFront ? NEG : SUB;
+                case '*':
+                    return MUL;
+                case '/':
+                    return DIV;
+                case '%':
+                    return REM;
                 case '<':
                     return LT;
                 case AT_MOST:
@@ -1304,59 +1331,33 @@ public final class VitalTwin {
                     return GE;
                 case SAME:
                     return EQ;
-                default:
+                case OTHER:
                     return NE;
-            }
-        }
-
-        private void finishSum() {
-            int mark = marks[pending];
-            int place = places[pending];
-            ask(types[pending] == INT && type == INT, place);
-            if ((mark == '/' || mark == '%') && low <= 0 && high >= 0) {
-                reader.fail(BY_ZERO, place);
-            }
-            if (mark == '%') {
-                setRest(lows[pending], highs[pending]);
-            } else {
-                setSum(mark, lows[pending], highs[pending]);
-            }
-            code.combine(sumOf(mark), low, high);
-        }
-
-        private static int sumOf(int mark) {
-            switch (mark) {
-                case '+':
-                    return ADD;
-                case '-':
-                    return SUB;
-                case '*':
-                    return MUL;
-                case '/':
-                    return DIV;
                 default:
-                    return REM;
+                    return NOT;
             }
         }
 
-        /** The RANGE of a rest, of what is from firstLow to firstHigh by the divisor that was read. */
-        private void setRest(int firstLow, int firstHigh) {
-            int most = Math.max(Math.abs(low), Math.abs(high)) - 1;
-            int least = firstLow < 0 ? -Math.min(most, -firstLow) : 0;
-            set(INT, least, firstHigh > 0 ? Math.min(most, firstHigh) : 0);
-        }
-
-        private void setSum(int mark, long firstLow, long firstHigh) {
+        private void finishSum(int mark, long firstLow, long firstHigh) {
+            if ((mark == '/' || mark == '%') && low <= 0 && high >= 0) {
+                reader.fail(BY_ZERO, places[pending]);
+            }
             long one = result(mark, firstLow, low);
             long two = result(mark, firstLow, high);
             long three = result(mark, firstHigh, low);
             long four = result(mark, firstHigh, high);
             long least = Math.min(Math.min(one, two), Math.min(three, four));
             long most = Math.max(Math.max(one, two), Math.max(three, four));
+            if (mark == '%') {
+                long rest = Math.max(Math.abs((long) low), Math.abs((long) high)) - 1;
+                least = firstLow < 0 ? Math.max(-rest, firstLow) : 0;
+                most = firstHigh > 0 ? Math.min(rest, firstHigh) : 0;
+            }
             if (least < -GREATEST || most > GREATEST) {
                 reader.fail(BEYOND, places[pending]);
             }
-            set(INT, least, most);
+            low = (int) least;
+            high = (int) most;
         }
 
         private static long result(int mark, long a, long b) {
@@ -1375,7 +1376,7 @@ public final class VitalTwin {
         private void choice() {
             int place = reader.place;
             int asked = type;
-            reader.deepen();
+            reader.open('?');
             int skip = code.add(JZ, 0);
             int bound = code.bound;
             expression();
@@ -1388,7 +1389,9 @@ public final class VitalTwin {
             code.bound = bound;
             code.land(skip);
             expression();
-            ask(asked == BOOL && firstType == type, place);
+            if (asked != BOOL || firstType != type) {
+                reader.fail(BAD_TYPE, place);
+            }
             reader.nested--;
             set(type, Math.min(firstLow, low), Math.max(firstHigh, high));
             code.land(over);
@@ -1399,16 +1402,18 @@ public final class VitalTwin {
             int token = reader.token;
             switch (token) {
                 case NUMBER:
-                    constant(INT, reader.number());
+                    set(INT, reader.number(), reader.number());
+                    code.set(CONST, low, low, high);
                     reader.next();
                     break;
                 case K_TRUE:
                 case K_FALSE:
-                    constant(BOOL, token == K_TRUE ? 1 : 0);
+                    set(BOOL, 0, 1);
+                    code.set(CONST, token == K_TRUE ? 1 : 0, low, high);
                     reader.next();
                     break;
                 case '(':
-                    reader.deepen();
+                    reader.open('(');
                     expression();
                     reader.close(')');
                     break;
@@ -1427,9 +1432,11 @@ public final class VitalTwin {
             }
         }
 
-        private void constant(int newType, int value) {
-            set(newType, constants.lowOf(newType, value), constants.highOf(newType, value));
-            code.set(CONST, value, low, high);
+        /** min, max, abs, clamp take INTS; the last one was read. */
+        private void askInts(int firstType, int place) {
+            if (firstType != INT || type != INT) {
+                reader.fail(BAD_TYPE, place);
+            }
         }
 
         private void extreme(boolean least) {
@@ -1443,7 +1450,7 @@ public final class VitalTwin {
             code.keep(low, high);
             reader.expect(',');
             expression();
-            ask(firstType == INT && type == INT, place);
+            askInts(firstType, place);
             if (least) {
                 set(INT, Math.min(firstLow, low), Math.min(firstHigh, high));
             } else {
@@ -1458,7 +1465,7 @@ public final class VitalTwin {
             reader.next();
             reader.open('(');
             expression();
-            ask(type == INT, place);
+            askInts(type, place);
             boolean hasZero = low <= 0 && high >= 0;
             int least = hasZero ? 0 : Math.min(Math.abs(low), Math.abs(high));
             set(INT, least, Math.max(Math.abs(low), Math.abs(high)));
@@ -1471,7 +1478,7 @@ public final class VitalTwin {
             reader.next();
             reader.open('(');
             expression();
-            ask(type == INT, place);
+            askInts(type, place);
             reader.expect(',');
             int least = constants.read(INT);
             set(INT, Math.max(low, least), Math.max(high, least));
@@ -1494,14 +1501,17 @@ public final class VitalTwin {
             reader.next();
             askUse(used, place);
             if (used.kind == IS_FUN) {
-                ask(used.type != NOTHING, place);
+                if (used.type == NOTHING) {
+                    reader.fail(BAD_TYPE, place);
+                }
                 call(used, place);
             } else if (used.array) {
                 index(used);
                 set(used.type, used.low, used.high);
                 code.loadElement(used);
             } else if (used.kind == IS_CONST || used.kind == IS_MEMBER) {
-                constant(used.type, used.value);
+                set(used.type, used.type == INT ? used.value : 0, program.highOf(used.type, used.value));
+                code.set(CONST, used.value, low, high);
             } else {
                 set(used.type, used.low, used.high);
                 code.load(used, low, high);
@@ -1527,7 +1537,9 @@ public final class VitalTwin {
 
         /** Asks of the e that was read what has to be where it goes. */
         void askToSuit(int due, int least, int most) {
-            ask(type == due, from);
+            if (type != due) {
+                reader.fail(BAD_TYPE, from);
+            }
             if (low < least || high > most) {
                 reader.fail(NOT_WITHIN, from);
             }
@@ -1540,14 +1552,18 @@ public final class VitalTwin {
             if (fun.level + (inFun ? 1 : 0) > MOST_CALLS) {
                 reader.fail(TOO_MUCH, place);
             }
-            code.deepest = Math.max(code.deepest, fun.level);
             reader.open('(');
             int first = code.temps;
             int given = 0;
             boolean more = reader.token != ')';
             for (int n = 0; n < MANY && more; n++) {
                 expression();
-                keepFor(fun, given);
+                // one too many goes nowhere
+                Symbol parameter = given < fun.length ? program.at(fun.number + 1 + given) : null;
+                if (parameter != null) {
+                    askToSuit(parameter.type, parameter.low, parameter.high);
+                    code.keep(low, high);
+                }
                 given++;
                 more = reader.token == ',';
                 if (more) {
@@ -1558,30 +1574,15 @@ public final class VitalTwin {
                 reader.fail(BAD_NUMBER_OF_ES, reader.place);
             }
             reader.close(')');
-            handOver(fun, first);
-            set(fun.type, fun.low, fun.high);
-        }
-
-        /** An e for the k-th parameter; one too many goes nowhere. */
-        private void keepFor(Symbol fun, int k) {
-            Symbol parameter = k < fun.length ? program.at(fun.number + 1 + k) : null;
-            if (parameter != null) {
-                askToSuit(parameter.type, parameter.low, parameter.high);
-                code.keep(low, high);
-            }
-        }
-
-        private void handOver(Symbol fun, int firstTemp) {
             for (int k = 0; k < fun.length; k++) {
                 Symbol parameter = program.at(fun.number + 1 + k);
                 if (parameter != null) {
-                    code.loadTemp(firstTemp + k);
-                    code.store(parameter, 0);
+                    code.pass(first + k, parameter);
                 }
             }
-            code.temps = firstTemp;
-            code.add(CALL, fun.cell);
-            code.spend(fun.bound);
+            code.temps = first;
+            code.call(fun);
+            set(fun.type, fun.low, fun.high);
         }
     }
 
@@ -1645,7 +1646,14 @@ public final class VitalTwin {
                     rounds();
                     break;
                 case NAME:
-                    named();
+                    int place = reader.place;
+                    Symbol used = beginning();
+                    if (used != null && used.kind == IS_FUN) {
+                        expressions.call(used, place);
+                    } else if (used != null) {
+                        assign(used);
+                    }
+                    reader.expect(';');
                     break;
                 default:
                     reader.fail(BAD_TOKEN, reader.place);
@@ -1675,7 +1683,7 @@ public final class VitalTwin {
             reader.expect('=');
             if (told.array) {
                 int value = constants.readFor(told);
-                code.set(CONST, value, constants.lowOf(told.type, value), constants.highOf(told.type, value));
+                code.set(CONST, value, told.type == INT ? value : 0, program.highOf(told.type, value));
             } else {
                 expressions.expression();
                 expressions.askToSuit(told.type, told.low, told.high);
@@ -1687,45 +1695,42 @@ public final class VitalTwin {
             told.visible = true;
         }
 
-        /** What begins with a name: a call, or something is assigned. */
-        private void named() {
+        /** What a STATEMENT begins with: a fun that is called, or something that is assigned. */
+        private Symbol beginning() {
             int place = reader.place;
             Symbol used = program.find(reader);
             if (used == null || !canBegin(used.kind)) {
                 reader.fail(BAD_NAME, place);
-                return;
+                return null;
             }
             reader.next();
             expressions.askUse(used, place);
-            if (used.kind == IS_FUN) {
-                expressions.call(used, place);
-            } else if (used.array) {
-                assignElement(used);
-            } else {
-                reader.expect('=');
-                expressions.expression();
-                expressions.askToSuit(used.type, used.low, used.high);
-                code.store(used, 0);
-            }
-            reader.expect(';');
+            return used;
         }
 
         private static boolean canBegin(int kind) {
             return kind == IS_OUT || kind == IS_STATE || kind == IS_FUN || kind == IS_PARAMETER || kind == IS_VAR;
         }
 
-        private void assignElement(Symbol array) {
-            expressions.index(array);
-            int temp = code.keep(expressions.low, expressions.high);
+        private void assign(Symbol used) {
+            int temp = code.temps;
+            if (used.array) {
+                expressions.index(used);
+                code.keep(expressions.low, expressions.high);
+            }
             reader.expect('=');
             expressions.expression();
-            expressions.askToSuit(array.type, array.low, array.high);
-            code.keep(expressions.low, expressions.high);
-            code.loadTemp(temp);
-            code.add(MOVE, 0);
-            code.loadTemp(temp + 1);
-            code.storeElement(array);
-            code.temps = temp;
+            expressions.askToSuit(used.type, used.low, used.high);
+            if (used.array) {
+                code.keep(expressions.low, expressions.high);
+                code.loadTemp(temp);
+                code.add(MOVE, 0);
+                code.loadTemp(temp + 1);
+                code.storeElement(used);
+                code.temps = temp;
+            } else {
+                code.store(used, 0);
+            }
         }
 
         /** An if with all that stands behind its elses: the JUMPs behind the BLOCKs go behind the whole. */
@@ -1868,12 +1873,36 @@ public final class VitalTwin {
         /** Makes the program that is on the tape, or fails. */
         void readProgram() {
             program.clear();
-            program.start = NONE;
             statements.clear();
             reader.begin();
             for (int n = 0; n < MANY && reader.token != K_CYCLE; n++) {
-                declaration();
+                switch (reader.token) {
+                    case K_CONST:
+                        constant();
+                        break;
+                    case K_TYPE:
+                        type();
+                        break;
+                    case K_IN:
+                        port(IS_IN);
+                        break;
+                    case K_OUT:
+                        port(IS_OUT);
+                        break;
+                    case K_STATE:
+                        port(IS_STATE);
+                        break;
+                    case K_FUN:
+                        function();
+                        break;
+                    default:
+                        reader.fail(BAD_TOKEN, reader.place);
+                }
             }
+            readCycle();
+        }
+
+        private void readCycle() {
             reader.expect(K_CYCLE);
             program.start = program.code.size;
             statements.block(program.told, null);
@@ -1886,31 +1915,6 @@ public final class VitalTwin {
             program.placeLocals();
             if (program.code.size > MOST_CODE || program.cells > room || program.bound > 100000) {
                 reader.fail(TOO_LARGE, reader.place);
-            }
-        }
-
-        private void declaration() {
-            switch (reader.token) {
-                case K_CONST:
-                    constant();
-                    break;
-                case K_TYPE:
-                    type();
-                    break;
-                case K_IN:
-                    port(IS_IN);
-                    break;
-                case K_OUT:
-                    port(IS_OUT);
-                    break;
-                case K_STATE:
-                    port(IS_STATE);
-                    break;
-                case K_FUN:
-                    function();
-                    break;
-                default:
-                    reader.fail(BAD_TOKEN, reader.place);
             }
         }
 
@@ -2028,10 +2032,10 @@ public final class VitalTwin {
             this.one = one;
         }
 
-        void clear() {
+        void clear(int many) {
             a = 0;
             b = 0;
-            for (int k = 0; k < cells.length; k++) {
+            for (int k = 0; k < many && k < cells.length; k++) {
                 cells[k] = 0;
             }
         }
@@ -2272,13 +2276,13 @@ public final class VitalTwin {
             return copy == 0 ? first : second;
         }
 
-        void clear() {
+        void clear(int cells) {
             running = 0;
             done = 0;
             doneByFirst = 0;
             outcome = GOES_ON;
-            first.clear();
-            second.clear();
+            first.clear(cells);
+            second.clear(cells);
         }
 
         void takeFrom(Run other, int cells) {
@@ -2403,7 +2407,7 @@ public final class VitalTwin {
         }
 
         void restart() {
-            run.clear();
+            run.clear(program.cells);
             for (int i = 0; i < program.told; i++) {
                 Symbol told = program.at(i);
                 if (told != null && (told.kind == IS_OUT || told.kind == IS_STATE)) {
