@@ -174,6 +174,8 @@ public final class CodeTest {
                 "1..1 - -3..9 - 1..1 - -3..9 -");
         due("s[clamp(i, 0, 2)] = i + 1;", "LOAD 0; LOW 0; HIGH 2; STORE 12; LOAD 0; STORE 13; CONST 1; MOVE; LOAD 13; ADD;"
                 + " STORE 13; LOAD 12; MOVE; LOAD 13; STOREX 7 3", "-3..9 0..9 0..2 - -3..9 - 1..1 - -3..9 -2..10 - 0..2 - -2..10 -");
+        due("s[1] = i; s[2] = 4;", "CONST 1; STORE 12; LOAD 0; STORE 13; LOAD 12; MOVE; LOAD 13; STOREX 7 3;"
+                + " CONST 2; STORE 12; CONST 4; STORE 13; LOAD 12; MOVE; LOAD 13; STOREX 7 3", null);
         VitalTwin twin = due("s[1] = i;", "CONST 1; STORE 12; LOAD 0; STORE 13; LOAD 12; MOVE; LOAD 13; STOREX 7 3", null);
         Check.due("code of STOREX", 5, twin.code(7, 0));
         Check.due("its first operand", 7, twin.code(7, 1));

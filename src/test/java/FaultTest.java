@@ -512,6 +512,7 @@ public final class FaultTest {
         Check.dueFault(10, funs + "fun f17() { f15(); @f16(1); } cycle {}");
         Check.dueNoFault(funs + "fun g() { f15(); f3(); } cycle { g(); }");
         Check.dueFault(10, funs + "fun g() { f3(); f15(); } fun h() { f15(); @g(); } cycle {}");
+        Check.dueNoFault(funs + "fun leaf() {} fun h() { leaf(); f15(); } cycle { h(); }");
         // 3 and 5 come ahead of it
         Check.dueFault(3, funs + "fun f17() { @f16; } cycle {}");
         Check.dueFault(5, funs + "fun f16b() { f15(); } fun f17(): 0..1 { return @f16b(); } cycle {}");

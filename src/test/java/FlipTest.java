@@ -291,7 +291,8 @@ public final class FlipTest {
     /** What probe tells is what 64 machines with one FLIP each do. */
     private static void probeAgainstFlips() {
         String program = "in x: 0..9; in a[2]: 0..3; out y: 0..99 = 5; out f: bool = false; state n: 0..9 = 1;"
-                + "cycle { for i = 1 to 2 { y = x * a[i - 1] / (n + 1); } f = y > 3; assert x < 8 || f; n = (n + 1) % 9; }";
+                + "fun rest(v: 0..10): 0..8 { return v % 9; } fun next() { n = rest(n + 1); }"
+                + "cycle { for i = 1 to 2 { y = x * a[i - 1] / (n + 1); } f = y > 3; assert x < 8 || f; next(); }";
         VitalTwin twin = Check.made(program);
         int[] given = {5, 2, 3};
         for (int k = 0; k < given.length; k++) {
@@ -303,7 +304,7 @@ public final class FlipTest {
         int[] wheres = {-2, -1, 0, 2, 3, 5, 6};
         for (int copy = 0; copy <= 1; copy++) {
             for (int where : wheres) {
-                for (int step = 0; step < steps + 2; step += 7) {
+                for (int step = 0; step < steps + 2; step += 5) {
                     int[] want = tried(program, given, copy, where, step);
                     for (int what = 0; what <= 4; what++) {
                         Check.due("probe(" + copy + ", " + where + ", " + step + ", " + what + ")", want[what],

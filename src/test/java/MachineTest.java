@@ -14,6 +14,7 @@ public final class MachineTest {
         stepsOfTwoCycles();
         callsAndPlacesToComeBackTo();
         results();
+        elements();
         pastCycles();
         latchedByAnAssert();
         power();
@@ -58,6 +59,12 @@ public final class MachineTest {
         Check.due("y", 0, twin.output(0));
         Check.due("z[0]", -1, twin.output(1));
         Check.due("z[1]", -9, twin.output(2));
+        VitalTwin edges = Check.made("in a: -9..0; in b: 0..9; in c[2]: 1..9; in d: -9..-1; cycle {}");
+        edges.cycle();
+        long[] values = {0, 0, 1, 1, -9};
+        for (int k = 0; k < values.length; k++) {
+            dueCell(edges, k, values[k]);
+        }
     }
 
     private static void inputs() {
@@ -208,6 +215,23 @@ public final class MachineTest {
         }
     }
 
+    /** Every element by its own INDEX, read and written. */
+    private static void elements() {
+        VitalTwin twin = Check.made("in a[4]: 0..99; in k: 0..3; out y: 0..99 = 0; out z[4]: 0..99 = 7; cycle {"
+                + "var v[4]: 0..99 = 7; y = a[k]; v[k] = a[3 - k]; z[k] = v[k]; }");
+        for (int n = 0; n < 4; n++) {
+            twin.input(n, 10 + n);
+        }
+        for (int k = 0; k < 4; k++) {
+            twin.input(4, k);
+            Check.due("cycle() of " + k, 1, twin.cycle());
+            Check.due("what was read at " + k, 10 + k, twin.output(0));
+            for (int n = 0; n < 4; n++) {
+                Check.due("z[" + n + "]", n <= k ? 13 - n : 7, twin.output(1 + n));
+            }
+        }
+    }
+
     /** An object is good for 512 calls; power() is asked so that the program need not be fed again. */
     private static VitalTwin fresh(VitalTwin twin) {
         twin.power();
@@ -264,6 +288,14 @@ public final class MachineTest {
         Check.due("power()", true, twin.power());
         Check.due("it goes on", 1, twin.cycle());
         Check.due("with what was given", 2, twin.output(0));
+        VitalTwin within = Check.made("in b: bool; fun f() { assert b; } fun g() { f(); } cycle { g(); }");
+        Check.due("STEPS to a TRAP within calls", 4, within.steps(100));
+        Check.due("no places to come back to", 0, within.register(0, 3));
+        within.power();
+        within.input(0, 1);
+        within.steps(1);
+        Check.due("the row begins empty", 1, within.register(0, 3));
+        Check.due("it is EMITTED", 1, within.cycle());
     }
 
     private static void power() {

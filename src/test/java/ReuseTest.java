@@ -1,9 +1,9 @@
 /** Promise 3: one object compiles program after program, and each is as a new object makes it, whatever was on the tape ahead of it. */
 public final class ReuseTest {
-    private static final String NESTED = "out o: 0..9 = 1; cycle { o = " + Check.repeat("(", 63) + "1" + Check.repeat(")", 63) + "; }";
+    private static final String NESTED = "out o: 0..9 = 1; cycle { o = " + Check.repeat("(", 63) + "1 + 1" + Check.repeat(")", 63) + "; }";
     private static final String[] PROGRAMS = {
-        "cycle {}",
-        "const a = 1; in x: 0..9; out y: 0..18 = 4; fun f(p: 0..9): 0..18 { var q[3]: 0..9 = a; return p + q[1]; }"
+        "cycle { var v: bool = true; for i = 1 to 2 {} }",
+        "in five: 5..9; in x: 0..9; out y: 0..18 = 4; const a = 1; fun f(p: 0..9): 0..18 { var q[3]: 0..9 = a; return p + q[1]; }"
                 + "fun g() { for i = 1 to 3 { y = f(i); } } cycle { g(); y = f(x); }",
         "type T = r, s; fun f() { assert 1 + 2 * 3 > 0; } state t[2]: T = s; out b: bool = false; fun h(a: T) { f(); t[0] = a; }"
                 + "cycle { var v: bool = t[0] == r; h(r); b = v; }",
@@ -19,7 +19,8 @@ public final class ReuseTest {
     };
 
     public static void main(String[] args) {
-        oneBehindTheOther();
+        oneBehindAnother();
+        oneBehindAFault();
         manyFaults();
         namesOfTheOneAhead();
         Check.end();
@@ -31,22 +32,35 @@ public final class ReuseTest {
         for (int i = 0; i < twin.count(1); i++) {
             made.append(Check.name(twin, i)).append(' ');
         }
-        twin.input(0, 1);
+        twin.input(0, 6);
+        twin.input(1, 1);
         for (int n = 0; n < 3; n++) {
             made.append(twin.cycle()).append(Check.state(twin));
         }
         return made.toString();
     }
 
-    private static void oneBehindTheOther() {
-        VitalTwin twin = new VitalTwin(4096);
-        for (int round = 0; round < 3; round++) {
-            for (int n = 0; n < PROGRAMS.length; n++) {
-                String program = PROGRAMS[(n * (round + 1) + round) % PROGRAMS.length];
-                String fault = FAULTS[(n + round * PROGRAMS.length) % FAULTS.length];
+    private static void oneBehindAnother() {
+        for (String first : PROGRAMS) {
+            for (String second : PROGRAMS) {
+                VitalTwin twin = Check.made(first);
+                Check.due("the first again", 0, Check.compile(twin, first));
+                twin.cycle();
+                Check.due("the second", 0, Check.compile(twin, second));
+                Check.due(second + " behind " + first, all(Check.made(second)), all(twin));
+                Check.due("the second again", 0, Check.compile(twin, second));
+                Check.due(second + " again", all(Check.made(second)), all(twin));
+            }
+        }
+    }
+
+    private static void oneBehindAFault() {
+        for (String fault : FAULTS) {
+            for (String program : PROGRAMS) {
+                VitalTwin twin = new VitalTwin(4096);
                 Check.due("a fault", true, Check.compile(twin, fault) > 0);
                 Check.due("a program", 0, Check.compile(twin, program));
-                Check.due("what is made of " + program, all(Check.made(program)), all(twin));
+                Check.due(program + " behind " + fault, all(Check.made(program)), all(twin));
             }
         }
     }

@@ -10,6 +10,7 @@ public final class SymbolTest {
         wrongOnes();
         boundsOfFuns();
         cellsOfUnits();
+        manyFuns();
         names();
         Check.end();
     }
@@ -75,6 +76,14 @@ public final class SymbolTest {
         Check.due("symbol(0, 0) of none", -1, twin.symbol(0, 0));
         Check.due("name(0, 0) of none", -1, twin.name(0, 0));
         Check.due("SYMBOLS", 0, twin.count(1));
+        for (int n = 0; n < 2; n++) {
+            Check.compile(twin, "in a: 3..5; in b: 3..5; cycle {}");
+        }
+        for (int n = 0; n < 2; n++) {
+            Check.compile(twin, "in a: 3..5; cycle {}");
+            Check.due("symbol(1, 0), that was one in another program", -1, twin.symbol(1, 0));
+            Check.due("name(1, 0)", -1, twin.name(1, 0));
+        }
     }
 
     private static void boundsOfFuns() {
@@ -102,6 +111,22 @@ public final class SymbolTest {
         Check.due("CELLS", 10, twin.count(3));
     }
 
+    private static void manyFuns() {
+        StringBuilder funs = new StringBuilder("fun f() { assert 1 > 0; }");
+        for (int n = 1; n < 399; n++) {
+            funs.append("fun f").append(n).append("(){}");
+        }
+        VitalTwin twin = Check.made(funs + "cycle { var v: bool = 1 > 0; f398(); }");
+        Check.due("SYMBOLS", 400, twin.count(1));
+        Check.due("cell of v", 1, twin.symbol(399, 4));
+        Check.due("CELLS", 3, twin.count(3));
+        Check.due("v is in no fun", -1, twin.symbol(399, 6));
+        Check.due("cycle()", 1, twin.cycle());
+        VitalTwin full = Check.made(funs + "fun g() {} cycle { assert 2 > 0; }");
+        Check.due("CELLS", 2, full.count(3));
+        Check.due("the TEMP of cycle", 1, full.code(full.count(4) + 1, 1));
+    }
+
     private static void names() {
         VitalTwin twin = Check.made("in abcdefghijklmnopqrst: bool; in _A9: bool; cycle {}");
         Check.due("the longest name", "abcdefghijklmnopqrst", Check.name(twin, 0));
@@ -113,5 +138,9 @@ public final class SymbolTest {
             Check.due("name(1, " + k + ")", -1, twin.name(1, k));
         }
         Check.due("behind the longest", -1, twin.name(0, 20));
+        for (String name : new String[] {"abcdefghijklm", "nopqrstuvwxyz", "ABCDEFGHIJKLM", "NOPQRSTUVWXYZ", "_0123456789_", "Aa", "Zz",
+            "iff", "i", "clam", "clampp", "If"}) {
+            Check.due("a name", name, Check.name(Check.made("in " + name + ": bool; cycle {}"), 0));
+        }
     }
 }
