@@ -1,3 +1,5 @@
+import java.util.Arrays;
+
 /** A vital coded processor: a compiler for a small control language, and a machine that runs its code twice. */
 public final class VitalTwin {
     public static final int NONE = -1;
@@ -140,10 +142,12 @@ public final class VitalTwin {
 
     public VitalTwin(int cells) {
         int many = Math.max(16, Math.min(4096, cells));
-        reader = new Reader();
-        active = new Declarations(reader, many);
-        waiting = new Declarations(reader, many);
-        machine = new Machine(many, active.program);
+        Reader shared = new Reader();
+        Declarations first = new Declarations(shared, many);
+        reader = shared;
+        active = first;
+        waiting = new Declarations(shared, many);
+        machine = new Machine(many, first.program);
         line = new byte[64];
     }
 
@@ -389,9 +393,7 @@ public final class VitalTwin {
 
         private void makeRoom(int due) {
             if (due > tape.length) {
-                byte[] wider = new byte[Math.max(due, 2 * tape.length)];
-                System.arraycopy(tape, 0, wider, 0, length);
-                tape = wider;
+                tape = Arrays.copyOf(tape, Math.max(due, 2 * tape.length));
             }
         }
 
@@ -857,15 +859,6 @@ public final class VitalTwin {
         private final int[] tempHighs = new int[ROOM_FOR_TEMPS];
 
         void clear() {
-            if (ops.length == 0) {
-                // not in the constructor: an object that compiles once has use for one set of rows alone
-                ops = new int[MOST_CODE];
-                firsts = new int[MOST_CODE];
-                seconds = new int[MOST_CODE];
-                lows = new int[MOST_CODE];
-                highs = new int[MOST_CODE];
-                homes = new int[MOST_CODE];
-            }
             size = 0;
             unit = 0;
             beginUnit();
@@ -894,6 +887,9 @@ public final class VitalTwin {
 
         private void put(int op, int first, int second, int low, int high, int home) {
             int i = size;
+            if (i >= ops.length && i < MOST_CODE) {
+                grow();
+            }
             if (i < ops.length) {
                 ops[i] = op;
                 firsts[i] = first;
@@ -904,6 +900,17 @@ public final class VitalTwin {
             }
             size++;
             bound = Math.min(MOST_BOUND, bound + 1);
+        }
+
+        /** Most programs are small, and one of the two compilers may never be used: so the rows begin empty. */
+        private void grow() {
+            int room = Math.min(MOST_CODE, Math.max(128, 2 * ops.length));
+            ops = Arrays.copyOf(ops, room);
+            firsts = Arrays.copyOf(firsts, room);
+            seconds = Arrays.copyOf(seconds, room);
+            lows = Arrays.copyOf(lows, room);
+            highs = Arrays.copyOf(highs, room);
+            homes = Arrays.copyOf(homes, room);
         }
 
         /** An INSTRUCTION that leaves A alone: its number. */
@@ -1857,17 +1864,20 @@ public final class VitalTwin {
 
     /** Reads a whole program. */
     private static final class Declarations {
-        final Program program = new Program();
+        final Program program;
         private final Reader reader;
         private final int room;
         private final Constants constants;
         private final Statements statements;
 
         Declarations(Reader reader, int room) {
+            Program made = new Program();
+            Constants shared = new Constants(reader, made);
             this.reader = reader;
             this.room = room;
-            constants = new Constants(reader, program);
-            statements = new Statements(reader, program, constants);
+            program = made;
+            constants = shared;
+            statements = new Statements(reader, made, shared);
         }
 
         /** Makes the program that is on the tape, or fails. */

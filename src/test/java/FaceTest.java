@@ -112,7 +112,8 @@ public final class FaceTest {
 
     private static void sourceKeepsToTheLanguage() throws IOException {
         String source = Files.readString(Path.of("src/main/java/VitalTwin.java"));
-        String[] barred = {"->", "::", "import ", "synchronized", "finally", "static {", "getMessage", "Random", "System.out",
+        Check.due("imports", "java.util.Arrays", imports(source));
+        String[] barred = {"->", "::", "synchronized", "finally", "static {", "getMessage", "Random", "System.out",
             "System.nano", "currentTime", "Thread", "assert ", "ArrayIndexOutOf", "NullPointer", "ClassCast", "catch (Exception",
             "catch (RuntimeException", "catch (Throwable", "ArithmeticException", "Exact("};
         String withoutComments = source.replaceAll("/\\*\\*.*?\\*/", "").replaceAll("//.*", "").replaceAll("\"[^\"]*\"", "\"\"");
@@ -121,6 +122,16 @@ public final class FaceTest {
         }
         Check.due("texts are not joined by +", false, withoutComments.matches("(?s).*(\"\\s*\\+|\\+\\s*\").*"));
         methodsAreShort(source.split("\n"));
+    }
+
+    private static String imports(String source) {
+        List<String> found = new ArrayList<>();
+        for (String line : source.split("\n")) {
+            if (line.startsWith("import ")) {
+                found.add(line.substring(7, line.length() - 1));
+            }
+        }
+        return String.join(" ", found);
     }
 
     private static void methodsAreShort(String[] lines) {
