@@ -11,6 +11,8 @@ public final class VitalTwin {
     private static final int GREATEST = 2000000000;
     private static final int BITS = 64;
     private static final int LONGEST_TAPE = 65536;
+    /** What 512 calls of feed bring: the rows for the tape have room for it at once, so that no such run makes them again. */
+    private static final int FED_IN_A_RUN = 512 * 16;
     private static final int MOST_CODE = 8192;
     private static final int MOST_SYMBOLS = 400;
     private static final int MOST_NESTED = 64;
@@ -357,10 +359,10 @@ public final class VitalTwin {
         /** How many ( [ { ? and - ! in front hold what is read now. */
         int nested;
         int fault;
-        private byte[] tape = new byte[1024];
+        private byte[] tape = new byte[FED_IN_A_RUN];
         /** The tokens of the tape: what they are, and 32 * place + length. */
-        private byte[] kinds = new byte[0];
-        private int[] spots = new int[0];
+        private byte[] kinds = new byte[FED_IN_A_RUN + 1];
+        private int[] spots = new int[FED_IN_A_RUN + 1];
         private int many;
         private int at;
 
@@ -835,13 +837,13 @@ public final class VitalTwin {
         static final int ROOM_FOR_TEMPS = 1024;
         static final int UNITS = MOST_SYMBOLS + 1;
 
-        int[] ops = new int[0];
-        int[] firsts = new int[0];
-        int[] seconds = new int[0];
-        int[] lows = new int[0];
-        int[] highs = new int[0];
+        final int[] ops = new int[MOST_CODE];
+        final int[] firsts = new int[MOST_CODE];
+        final int[] seconds = new int[MOST_CODE];
+        final int[] lows = new int[MOST_CODE];
+        final int[] highs = new int[MOST_CODE];
         /** Whose cells the first operand counts from: 0 none's, 2 u + 1 the variables' of unit u, 2 u + 2 its TEMPS'. */
-        private int[] homes = new int[0];
+        private final int[] homes = new int[MOST_CODE];
         /** Counts on beyond what is stored, as the fault is told at the end alone. */
         int size;
         /** INSTRUCTIONS on the longest way to here, of the unit. */
@@ -887,9 +889,6 @@ public final class VitalTwin {
 
         private void put(int op, int first, int second, int low, int high, int home) {
             int i = size;
-            if (i >= ops.length && i < MOST_CODE) {
-                grow();
-            }
             if (i < ops.length) {
                 ops[i] = op;
                 firsts[i] = first;
@@ -900,17 +899,6 @@ public final class VitalTwin {
             }
             size++;
             bound = Math.min(MOST_BOUND, bound + 1);
-        }
-
-        /** Most programs are small, and one of the two compilers may never be used: so the rows begin empty. */
-        private void grow() {
-            int room = Math.min(MOST_CODE, Math.max(128, 2 * ops.length));
-            ops = Arrays.copyOf(ops, room);
-            firsts = Arrays.copyOf(firsts, room);
-            seconds = Arrays.copyOf(seconds, room);
-            lows = Arrays.copyOf(lows, room);
-            highs = Arrays.copyOf(highs, room);
-            homes = Arrays.copyOf(homes, room);
         }
 
         /** An INSTRUCTION that leaves A alone: its number. */
@@ -2378,8 +2366,11 @@ public final class VitalTwin {
         private int emitted;
         /** What is given for in, at the numbers of its cells. */
         private final int[] given;
-        /** The outs of the latest CYCLES, one CYCLE behind the other, from its number modulo KEPT_CYCLES on. */
-        private int[] kept = new int[0];
+        /**
+         * The outs of the latest CYCLES, one CYCLE behind the other, from its number modulo KEPT_CYCLES on. All cells
+         * may be outs, and the row is long enough for that, as one for each program would soon fill the room.
+         */
+        private final int[] kept;
         /** Four numbers for each FLIP: copy, where, bit, STEP. */
         private final int[] flips = new int[4 * MOST_FLIPS];
         private int planned;
@@ -2395,15 +2386,13 @@ public final class VitalTwin {
             mark = new Run(cells);
             given = new int[cells];
             expected = new int[cells];
+            kept = new int[KEPT_CYCLES * cells];
             this.program = program;
         }
 
         void load(Program newProgram) {
             program = newProgram;
             loaded = true;
-            if (kept.length < KEPT_CYCLES * program.outs) {
-                kept = new int[KEPT_CYCLES * program.outs];
-            }
             for (int i = 0; i < program.told; i++) {
                 Symbol in = program.at(i);
                 if (in != null && in.kind == IS_IN) {
