@@ -293,27 +293,26 @@ public final class FlipTest {
         String program = "in x: 0..9; in a[2]: 0..3; out y: 0..99 = 5; out f: bool = false; state n: 0..9 = 1;"
                 + "fun rest(v: 0..10): 0..8 { return v % 9; } fun next() { n = rest(n + 1); }"
                 + "cycle { for i = 1 to 2 { y = x * a[i - 1] / (n + 1); } f = y > 3; assert x < 8 || f; next(); }";
-        VitalTwin twin = Check.made(program);
         int[] given = {5, 2, 3};
-        for (int k = 0; k < given.length; k++) {
-            twin.input(k, given[k]);
-        }
-        twin.cycle();
-        String before = Check.state(twin);
         int steps = stepsOfACycle(program, given);
         int[] wheres = {-2, -1, 0, 2, 3, 5, 6};
         for (int copy = 0; copy <= 1; copy++) {
             for (int where : wheres) {
+                VitalTwin asked = given(program, given);
+                asked.cycle();
+                String before = Check.state(asked);
                 for (int step = 0; step < steps + 2; step += 5) {
                     int[] want = tried(program, given, copy, where, step);
                     for (int what = 0; what <= 4; what++) {
                         Check.due("probe(" + copy + ", " + where + ", " + step + ", " + what + ")", want[what],
-                                twin.probe(copy, where, step, what));
+                                asked.probe(copy, where, step, what));
                     }
                 }
+                Check.due("all is as it was", before, Check.state(asked));
             }
         }
-        Check.due("all is as it was", before, Check.state(twin));
+        VitalTwin twin = given(program, given);
+        twin.cycle();
         Check.due("a STEP that the CYCLE has not", 64, twin.probe(0, 0, steps, 0));
         for (int what = 1; what <= 4; what++) {
             Check.due("the same, what " + what, 0, twin.probe(0, 0, steps, what));
@@ -330,32 +329,35 @@ public final class FlipTest {
     }
 
     private static int stepsOfACycle(String program, int[] given) {
-        VitalTwin twin = Check.made(program);
-        for (int k = 0; k < given.length; k++) {
-            twin.input(k, given[k]);
-        }
+        VitalTwin twin = given(program, given);
         twin.cycle();
         return twin.steps(200000);
     }
 
+    private static VitalTwin given(String program, int[] given) {
+        VitalTwin twin = Check.made(program);
+        for (int k = 0; k < given.length; k++) {
+            twin.input(k, given[k]);
+        }
+        return twin;
+    }
+
+    /** One object for all bits: power() makes the machine begin anew with what was given. */
     private static int[] tried(String program, int[] given, int copy, int where, int step) {
         int[] found = new int[5];
+        VitalTwin twin = given(program, given);
+        twin.cycle();
+        twin.cycle();
+        int first = twin.output(0);
+        int second = twin.output(1);
         for (int bit = 0; bit < 64; bit++) {
-            VitalTwin twin = Check.made(program);
-            for (int k = 0; k < given.length; k++) {
-                twin.input(k, given[k]);
-            }
+            twin.power();
             twin.cycle();
-            VitalTwin plain = Check.made(program);
-            for (int k = 0; k < given.length; k++) {
-                plain.input(k, given[k]);
-            }
-            plain.cycle();
-            plain.cycle();
             twin.flip(copy, where, bit, step);
             twin.cycle();
-            boolean same = twin.output(0) == plain.output(0) && twin.output(1) == plain.output(1);
-            found[twin.count(11) != 0 ? twin.count(11) : same ? 0 : 4]++;
+            int why = twin.count(11);
+            boolean same = why == 0 && twin.output(0) == first && twin.output(1) == second;
+            found[why != 0 ? why : same ? 0 : 4]++;
         }
         return found;
     }
