@@ -6,9 +6,10 @@ import java.util.List;
 public final class CodeEdgeTest {
     private static final int[] FAR = {Integer.MIN_VALUE, -1, Integer.MAX_VALUE};
     /** A program that has every OP; what each has for operands stands in OPERANDS. */
-    private static final String ALL = "in i:0..9;in b:bool;in a[3]:0..9;out o:-99..99=0;out e[3]:-99..99=0;state f:bool=false;fun g(){}"
+    private static final String ALL = "in i:0..9;in b:bool;in a[3]:0..9;out o:-99..99=0;out e[3]:-99..99=0;state f:bool=false;"
+            + "fun g(){}fun h(p:0..9,q:bool){}"
             + "cycle{o=-i+abs(i)-i*i/(i+1)%7;o=min(i,max(i,clamp(i,-1,5)));e[1]=a[2];f=i<1||i<=2&&i>3;f=i>=4;f=i==5;f=i!=6;f=!b;"
-            + "if(b){g();}else{}assert true;}";
+            + "if(b){g();}else{}assert true;h(i,b);for n=1 to 2{}case(i){1:{}2..3:{}else{}}o=b?1:2;}";
     private static final String[] WORDS = {"CONST", "LOAD", "STORE", "MOVE", "LOADX", "STOREX", "ADD", "SUB", "MUL", "DIV", "REM", "MIN",
         "MAX", "LT", "LE", "GT", "GE", "EQ", "NE", "NEG", "ABS", "NOT", "LOW", "HIGH", "JUMP", "JZ", "JNZ", "CALL", "RET", "HALT", "CHECK"};
     private static final int[] OPERANDS = {1, 1, 1, 0, 2, 2, 0, 0, 0, 0, 0, 0, 0, 0, 0, 0, 0, 0, 0, 0, 0, 0, 1, 1, 1, 1, 1, 1, 0, 0, 0};
@@ -20,6 +21,7 @@ public final class CodeEdgeTest {
         rangesAtTheGreatest();
         cellsOfAll();
         cellsOfTheirOwn();
+        cellsBehindTemps();
         tempsInUse();
         boundsAreReached();
         boundsOfFuns();
@@ -27,6 +29,7 @@ public final class CodeEdgeTest {
         minusOneIsAnAnswer();
         firstCells();
         lengths();
+        valuesThatAreTold();
         signsOfNames();
         noSuchInstruction();
         operandsOrNone();
@@ -72,7 +75,10 @@ public final class CodeEdgeTest {
         }
     }
 
-    /** "+ - *: the least and greatest of what the ends of both give. /: likewise, towards 0. min, max: of both lows, of both highs": all pairs tried. */
+    /**
+     * "+ - *: the least and greatest of what the ends of both give. /: likewise, towards 0. min, max: of both lows, of
+     * both highs": all pairs tried.
+     */
     private static void rangesOfTwo() {
         int[][] some = {{0, 0}, {-1, -1}, {1, 1}, {-3, 0}, {0, 4}, {-3, 4}, {-5, -2}, {2, 5}, {-7, 7}};
         for (String mark : new String[] {"+", "-", "*", "/", "min", "max"}) {
@@ -95,7 +101,10 @@ public final class CodeEdgeTest {
         }
     }
 
-    /** "with m = the greatest |divisor| less 1: from -min(m, -low) (0 if low is not below 0) to min(m, high) (0 if high is not above 0)". */
+    /**
+     * "with m = the greatest |divisor| less 1: from -min(m, -low) (0 if low is not below 0) to min(m, high) (0 if high is
+     * not above 0)".
+     */
     private static void rangesOfRests() {
         int[] one = {1, 1};
         int[] minusOne = {-1, -1};
@@ -163,7 +172,10 @@ public final class CodeEdgeTest {
         dueRange("44721*x", new int[] {-44721, 44721}, one, -1999967841, 1999967841);
     }
 
-    /** "from 0 on: in, out, state as they stand, an array's elements one behind the other; then of each fun, as they stand, and last of cycle". */
+    /**
+     * "from 0 on: in, out, state as they stand, an array's elements one behind the other; then of each fun, as they stand,
+     * and last of cycle".
+     */
     private static void cellsOfAll() {
         VitalTwin none = Check.made("const k=1;type t=m;fun f(){}cycle{}");
         Check.due("no CELLS at all", 0, none.count(3));
@@ -189,6 +201,26 @@ public final class CodeEdgeTest {
             Check.due("the cell of SYMBOL " + i, cells[i], twin.symbol(i, 4));
         }
         Check.due("CELLS", 9, twin.count(3));
+    }
+
+    /**
+     * "parameters, the variables of var (arrays, too) and for as they stand .., then TEMPS": of each fun ahead of the next
+     * one's.
+     */
+    private static void cellsBehindTemps() {
+        VitalTwin twin = Check.made("in i:0..9;fun f(a:0..9):bool{var v[2]:0..9=3;return a+v[1]>4;}fun g(b:0..9){var w:0..9=b;assert w+i*2>=0;}"
+                + "fun h(c:0..9){c=1;}out o:0..9=0;cycle{var z:0..9=i;for n=1 to 2{o=n;}if(f(z)){g(z);h(z);}}");
+        // i 0, o 1; f: a 2, v 3 4, TEMP 5; g: b 6, w 7, TEMPS 8 9; h: c 10; cycle: z 11, n 12, TEMP 13
+        int[][] cells = {{0, 0}, {2, 2}, {3, 3}, {5, 6}, {6, 7}, {8, 10}, {9, 1}, {10, 11}, {11, 12}};
+        for (int[] one : cells) {
+            Check.due("the cell of " + Check.name(twin, one[0]), one[1], twin.symbol(one[0], 4));
+        }
+        Check.due("CELLS", 14, twin.count(3));
+        Check.due("the code", "CONST 3; STORE 3; STORE 4; LOAD 2; STORE 5; CONST 1; LOADX 3 2; MOVE; LOAD 5; ADD; STORE 5; CONST 4; MOVE; LOAD 5;"
+                + " GT; RET; LOAD 6; STORE 7; LOAD 7; STORE 8; LOAD 0; STORE 9; CONST 2; MOVE; LOAD 9; MUL; MOVE; LOAD 8; ADD; STORE 8; CONST 0;"
+                + " MOVE; LOAD 8; GE; CHECK; RET; CONST 1; STORE 10; RET; LOAD 0; STORE 11; CONST 1; STORE 12; CONST 2; MOVE; LOAD 12; LE; JZ 56;"
+                + " LOAD 12; STORE 1; CONST 1; MOVE; LOAD 12; ADD; STORE 12; JUMP 43; LOAD 11; STORE 13; LOAD 13; STORE 2; CALL 0; JZ 72;"
+                + " LOAD 11; STORE 13; LOAD 13; STORE 6; CALL 16; LOAD 11; STORE 13; LOAD 13; STORE 10; CALL 36; HALT", Check.listing(twin, 0));
     }
 
     /** "then TEMPS, as many as its code has use for"; "T the lowest TEMP that is not in use". */
@@ -290,9 +322,13 @@ public final class CodeEdgeTest {
         Check.due("what is put out", -1, twin.output(0));
     }
 
-    /** "4: its first cell (NONE of a const, type, MEMBER; of a fun its first INSTRUCTION)"; "6: the SYMBOL of the fun that it is in (NONE)". */
+    /**
+     * "4: its first cell (NONE of a const, type, MEMBER; of a fun its first INSTRUCTION)"; "6: the SYMBOL of the fun that
+     * it is in (NONE)".
+     */
     private static void firstCells() {
-        VitalTwin twin = Check.made("const k=1;type t=m;in i:bool;fun f(p:bool){var v:bool=p;for n=1 to 2{}}fun g(){}cycle{var w:bool=i;for x=1 to 2{}}");
+        VitalTwin twin = Check.made("const k=1;type t=m;in i:bool;fun f(p:bool){var v:bool=p;for n=1 to 2{}}fun g(){}"
+                + "cycle{var w:bool=i;for x=1 to 2{}}");
         int[] cells = {-1, -1, -1, 0, 0, 1, 2, 3, 16, 4, 5};
         int[] funs = {-1, -1, -1, -1, -1, 4, 4, 4, -1, -1, -1};
         for (int i = 0; i < cells.length; i++) {
@@ -310,6 +346,36 @@ public final class CodeEdgeTest {
             Check.due("symbol(" + i + ", 5)", due[i], twin.symbol(i, 5));
         }
         Check.due("SYMBOLS", due.length, twin.count(1));
+    }
+
+    /** "7: the value that is told for it (const, MEMBER, out, state; else 0; true 1)": what is told comes to the cells, too. */
+    private static void valuesThatAreTold() {
+        VitalTwin twin = Check.made("const n=false;const t=true;const k=-2000000000;const d=n;const z=-k;type e=m0,m1;const m=m1;in i:5..9;"
+                + "out a:bool=false;out b:bool=true;out c[2]:e=m1;state f:bool=n;state g:bool=t;state h:-2000000000..0=k;state l:e=m;"
+                + "fun q(p:3..4):3..4{var v:3..4=p;for x=7 to 8{}return v;}cycle{var w[2]:bool=false;var y[2]:bool=true;var s:bool=n;}");
+        int[] due = {0, 1, -2000000000, 0, 2000000000, 0, 0, 1, 1, 0, 0, 1, 1, 0, 1, -2000000000, 1, 0, 0, 0, 0, 0, 0, 0};
+        for (int i = 0; i < due.length; i++) {
+            Check.due("symbol(" + i + ", 7) of " + Check.name(twin, i), due[i], twin.symbol(i, 7));
+        }
+        Check.due("SYMBOLS", due.length, twin.count(1));
+        long[] cells = {0, 0, 1, 1, 1, 0, 1, -2000000000, 1};
+        for (int k = 0; k < cells.length; k++) {
+            Check.due("cell " + k, cells[k], twin.cell(0, k));
+            Check.due("cell " + k + " of the second", 58659 * cells[k], twin.cell(1, k));
+        }
+        Check.due("false is put out", 0, twin.output(0));
+        Check.due("true is put out", 1, twin.output(1));
+        Check.due("what the variables begin with", "CONST 0; CONST 1; CONST 0", consts(twin, twin.count(4)));
+    }
+
+    private static String consts(VitalTwin twin, int from) {
+        List<String> found = new ArrayList<>();
+        for (int i = from; i < twin.count(2); i++) {
+            if (twin.code(i, 0) == 0) {
+                found.add(Check.text(twin, 0, i));
+            }
+        }
+        return String.join("; ", found);
     }
 
     /** "Sign k of the name of SYMBOL i; NONE if there is none". */
@@ -418,7 +484,10 @@ public final class CodeEdgeTest {
                 String.join(" ", consts));
     }
 
-    /** "LOAD of a for's N ahead of its LE: up to one more than it may be in the BLOCK, ahead of its ADD as it may be there, ADD one more at both ends". */
+    /**
+     * "LOAD of a for's N ahead of its LE: up to one more than it may be in the BLOCK, ahead of its ADD as it may be there,
+     * ADD one more at both ends".
+     */
     private static void rangesOfRounds() {
         int[][] some = {{0, 0}, {-1, 0}, {3, 9}, {-2000000000, -2000000000}, {2000000000, 2000000000}, {-2000000000, 2000000000}};
         for (int[] one : some) {
@@ -437,7 +506,8 @@ public final class CodeEdgeTest {
     /** "LOAD of a TEMP: of the e that is kept there". */
     private static void rangesOfTemps() {
         String begin = "type e=m0,m1,m2;in x:-4..6;in b:bool;in c:e;state a[3]:-9..9=0;fun f(p:-9..9,q:bool,r:e){}";
-        String[][] due = {{"f(x,b,c);", "-4..6 0..1 0..2"}, {"f(3,true,m1);", "3..3 0..1 0..2"}, {"f(x+1,x>0,b?m0:c);", "-4..6 -4..6 -3..7 0..1 0..2"},
+        String[][] due = {{"f(x,b,c);", "-4..6 0..1 0..2"}, {"f(3,true,m1);", "3..3 0..1 0..2"},
+            {"f(x+1,x>0,b?m0:c);", "-4..6 -4..6 -3..7 0..1 0..2"},
             {"a[1]=x;", "1..1 -4..6"}, {"a[clamp(x,0,2)]=-x;", "0..2 -6..4"}, {"case(x){1:{}}", "-4..6"}, {"case(c){m1:{}}", "0..2"},
             {"case(x){1..2:{}}", "-4..6 -4..6"}, {"case(x>0?9:x){1:{}}", "-4..6 -4..9"}, {"assert (b?x:7)>0;", "-4..7"},
             {"assert b==true;", "0..1"}, {"assert m1==c;", "0..2"}, {"assert min(x,2)>0;", "-4..6 -4..2"}};
@@ -481,14 +551,16 @@ public final class CodeEdgeTest {
     private static void operandsAsTexts() {
         int[] values = {0, 1, -1, 9, -9, 10, -10, 99, 100, 17, -17, 999999999, 1000000000, 2000000000, -2000000000, 36609};
         for (int v : values) {
-            VitalTwin twin = Check.made("const k=" + v + ";in x:-2000000000..2000000000;state s:-2000000000..2000000000=0;cycle{s=k;s=clamp(x,k,k);}");
+            VitalTwin twin = Check.made("const k=" + v + ";in x:-2000000000..2000000000;state s:-2000000000..2000000000=0;"
+                    + "cycle{s=k;s=clamp(x,k,k);}");
             long coded = 58659L * v;
             Check.due("texts of " + v, "CONST " + v + "; STORE 1; LOAD 0; LOW " + v + "; HIGH " + v + "; STORE 1; HALT", Check.listing(twin, 0));
             Check.due("of the second copy", "CONST " + coded + "; STORE 1; LOAD 0; LOW " + coded + "; HIGH " + coded + "; STORE 1; HALT",
                     Check.listing(twin, 1));
         }
         // cells, lengths and places to go to are as they are in both
-        VitalTwin far = Check.made("in b:bool;in a[4000]:0..9;out o:0..9=0;cycle{if(b){o=a[3999];}" + Check.repeat("assert true;", 2000) + "if(b){}}");
+        VitalTwin far = Check.made("in b:bool;in a[4000]:0..9;out o:0..9=0;cycle{if(b){o=a[3999];}"
+                + Check.repeat("assert true;", 2000) + "if(b){}}");
         Check.due("cells of the second copy", "LOADX 1 4000", Check.text(far, 1, 3));
         Check.due("a cell", "STORE 4001", Check.text(far, 1, 4));
         Check.due("a place to go to", "JZ 5", Check.text(far, 1, 1));

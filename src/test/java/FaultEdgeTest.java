@@ -98,7 +98,10 @@ public final class FaultEdgeTest {
         Check.dueFault(5, "out x:1..2=@false;cycle{}");
     }
 
-    /** "what is asked of an e when it was read to its end, of an operator's when its last one was (ahead of looking at the token behind)". */
+    /**
+     * "what is asked of an e when it was read to its end, of an operator's when its last one was (ahead of looking at the
+     * token behind)".
+     */
     private static void askedAheadOfTheTokenBehind() {
         String[] behind = {"$", "99999999999", "abcdefghijklmnopqrstuvw", "else", "", "@"};
         for (String token : behind) {
@@ -154,7 +157,10 @@ public final class FaultEdgeTest {
         fault(8, "f=b&&hi@*2;");
     }
 
-    /** "3 .. of something else than can stand there (a const, in, for that is assigned; a fun without ( ; an array without [, and what is none with ( or [ ..)". */
+    /**
+     * "3 .. of something else than can stand there (a const, in, for that is assigned; a fun without ( ; an array without
+     * [, and what is none with ( or [ ..)".
+     */
     private static void namesOfSomethingElse() {
         String[] never = {"K", "T", "red", "Col", "i", "ia", "x"};
         String[] behind = {"=1;", "[0]=1;", "(1);", ";", "$", "+1;", ""};
@@ -425,7 +431,8 @@ public final class FaultEdgeTest {
         // what stands ahead of a ? is not within it; both that stand behind it are
         fine("big=" + deep + ">0?1:2;");
         fault(10, "big=b?" + Check.repeat("(", 62) + "@(1");
-        fine("big=b?" + Check.repeat("(", 62) + "1" + Check.repeat(")", 62) + ":" + Check.repeat("(", 62) + "1" + Check.repeat(")", 62) + ";");
+        String almost = Check.repeat("(", 62) + "1" + Check.repeat(")", 62);
+        fine("big=b?" + almost + ":" + almost + ";");
         fault(10, "big=b?1:" + Check.repeat("(", 62) + "@(1");
         fine("big=(b?1:2)+" + Check.repeat("(", 63) + "1" + Check.repeat(")", 63) + ";");
         fine("big=" + Check.repeat("b?1:", 63) + "2;");
@@ -450,7 +457,10 @@ public final class FaultEdgeTest {
         return made.toString();
     }
 
-    /** "a call by which calls would be 17 within one another (at the name; a call in cycle is one, those in a fun stand within a call of it)". */
+    /**
+     * "a call by which calls would be 17 within one another (at the name; a call in cycle is one, those in a fun stand
+     * within a call of it)".
+     */
     private static void sixteenCalls() {
         String funs = chain(16, "", "", "");
         VitalTwin twin = Check.made(funs + "cycle{f16();}");
@@ -544,7 +554,8 @@ public final class FaultEdgeTest {
         }
         Check.dueFault(4096, 11, "in a[4096]:bool;in d[4096]:bool;out e[4096]:bool=true;cycle{}@");
         // TEMPS of funs and of cycle each count
-        Check.due("just enough TEMPS", 0, Check.compile(new VitalTwin(16), "in a[13]:bool;fun g(){assert 1>0;}fun h(){assert 1>0;}cycle{assert 1>0;}"));
+        Check.due("just enough TEMPS", 0, Check.compile(new VitalTwin(16),
+                "in a[13]:bool;fun g(){assert 1>0;}fun h(){assert 1>0;}cycle{assert 1>0;}"));
         Check.dueFault(16, 11, "in a[14]:bool;fun g(){assert 1>0;}fun h(){assert 1>0;}cycle{assert 1>0;}@");
     }
 

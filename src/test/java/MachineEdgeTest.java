@@ -1,4 +1,7 @@
-/** The edges that Terms 5 (THE MACHINE) and Promises 9 to 13, 15, 16, 18 and 19 name; those of flip and probe are in ProbeEdgeTest. */
+/**
+ * The edges that Terms 5 (THE MACHINE) and Promises 9 to 13, 15, 16, 18 and 19 name; those of flip and probe are in
+ * ProbeEdgeTest.
+ */
 public final class MachineEdgeTest {
     private static final long CODING = 58659;
     private static final int[] FAR = {Integer.MIN_VALUE, -1, Integer.MAX_VALUE};
@@ -100,7 +103,10 @@ public final class MachineEdgeTest {
         }
     }
 
-    /** "Then the first copy does cycle's code, A and B 0, to its HALT, then the second one"; "A and B stay as they were when it ends". */
+    /**
+     * "Then the first copy does cycle's code, A and B 0, to its HALT, then the second one"; "A and B stay as they were
+     * when it ends".
+     */
     private static void registersAtTheBeginning() {
         // fun: RET 0; cycle from 1 on: CALL 0; LOAD 0; STORE 1; CONST 2; MOVE; LOAD 1; LT; CHECK; HALT
         VitalTwin twin = Check.made("in x:0..1;fun f(){}cycle{f();assert x<2;}");
@@ -152,7 +158,10 @@ public final class MachineEdgeTest {
         }
     }
 
-    /** "THE GATE: are all CELLS of out within their RANGE (BOOL 0 .. 1) in the first segment, and 58659 times that in the second, they are EMITTED. Else it LATCHES (3)". */
+    /**
+     * "THE GATE: are all CELLS of out within their RANGE (BOOL 0 .. 1) in the first segment, and 58659 times that in the
+     * second, they are EMITTED. Else it LATCHES (3)".
+     */
     private static void theGateAtTheEndsOfARange() {
         dueAtTheGate("1..3", "1", 1, 3, true);
         dueAtTheGate("1..2", "1", 1, 3, false);
@@ -251,7 +260,10 @@ public final class MachineEdgeTest {
         Check.due("it is the TRAP that is told", 1, last.count(11));
     }
 
-    /** "Once it has LATCHED it is so (till the machine begins anew by power() or compile()): no more CYCLES, and what is put out is SAFE". */
+    /**
+     * "Once it has LATCHED it is so (till the machine begins anew by power() or compile()): no more CYCLES, and what is
+     * put out is SAFE".
+     */
     private static void latchedForGood() {
         VitalTwin twin = Check.made(CHECKED);
         twin.input(0, 3);
@@ -360,7 +372,10 @@ public final class MachineEdgeTest {
         Check.due("EMITTED", 2, twin.count(8));
     }
 
-    /** "Up to n STEPS, of the CYCLE that has begun, or else of one that begins, at most to its end (with the GATE, if it is come to): how many". */
+    /**
+     * "Up to n STEPS, of the CYCLE that has begun, or else of one that begins, at most to its end (with the GATE, if it is
+     * come to): how many".
+     */
     private static void stepsToTheEnd() {
         for (int n = 1; n <= 8; n++) {
             VitalTwin twin = Check.made("in x:0..9;out y:0..9=5;cycle{y=x;}");
@@ -406,7 +421,10 @@ public final class MachineEdgeTest {
         Check.due("the same again", steps, twin.steps(200000));
     }
 
-    /** "The CYCLE that has begun, or else a whole one, to its end: 1 if it is EMITTED, 0 if it LATCHES, or has. IllegalStateException: no program". */
+    /**
+     * "The CYCLE that has begun, or else a whole one, to its end: 1 if it is EMITTED, 0 if it LATCHES, or has.
+     * IllegalStateException: no program".
+     */
     private static void cyclesToTheirEnd() {
         VitalTwin none = new VitalTwin(16);
         Check.dueThrow("cycle() without a program", IllegalStateException.class, none::cycle);
@@ -555,7 +573,10 @@ public final class MachineEdgeTest {
         }
     }
 
-    /** "the machine begins anew with the program, also when it had LATCHED: true; false without one. (What was given for in stays.)". */
+    /**
+     * "the machine begins anew with the program, also when it had LATCHED: true; false without one. (What was given for in
+     * stays.)".
+     */
     private static void powerComesBack() {
         VitalTwin none = new VitalTwin(16);
         Check.due("power() without a program", false, none.power());
@@ -601,7 +622,10 @@ public final class MachineEdgeTest {
         }
     }
 
-    /** "9: STEPS that the CYCLE that has begun has done (0 between CYCLES), 10: 0 between CYCLES, 1 the first copy runs, 2 the second". */
+    /**
+     * "9: STEPS that the CYCLE that has begun has done (0 between CYCLES), 10: 0 between CYCLES, 1 the first copy runs, 2
+     * the second".
+     */
     private static void countsBetweenCycles() {
         VitalTwin twin = Check.made("cycle{assert true;}");
         int[] running = {0, 1, 1, 2, 2, 2, 0, 1};

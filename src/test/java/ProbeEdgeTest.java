@@ -239,7 +239,10 @@ public final class ProbeEdgeTest {
         }
     }
 
-    /** "12: FLIPS planned for the CYCLE that has begun or the next one (done ones, too, until it ends), 13: FLIPS done since the machine began". */
+    /**
+     * "12: FLIPS planned for the CYCLE that has begun or the next one (done ones, too, until it ends), 13: FLIPS done
+     * since the machine began".
+     */
     private static void countsOfFlips() {
         VitalTwin twin = copying(1);
         int[][] due = {{2, 1}, {2, 1}, {2, 1}, {2, 1}, {2, 2}, {0, 2}};
@@ -274,7 +277,10 @@ public final class ProbeEdgeTest {
         Check.due("all bits", 64, all);
     }
 
-    /** "tried with each of 64 bits: how many would be EMITTED as without a flip (what 0), LATCH by 1, 2, 3 .., be EMITTED otherwise (what 4)". */
+    /**
+     * "tried with each of 64 bits: how many would be EMITTED as without a flip (what 0), LATCH by 1, 2, 3 .., be EMITTED
+     * otherwise (what 4)".
+     */
     private static void probesOfAllBits() {
         VitalTwin twin = copying(1);
         // x: ahead of the first's LOAD, behind it, and the same of the second
@@ -359,7 +365,10 @@ public final class ProbeEdgeTest {
         dueProbe(twin, 0, 1, 5, 0, 0, 0, 64, 0);
     }
 
-    /** "NONE without a program, while a CYCLE has begun that is not through, when it has LATCHED, FLIPS are planned, the CYCLE would LATCH without a flip". */
+    /**
+     * "NONE without a program, while a CYCLE has begun that is not through, when it has LATCHED, FLIPS are planned, the
+     * CYCLE would LATCH without a flip".
+     */
     private static void probesThatTellNothing() {
         VitalTwin none = new VitalTwin(16);
         Check.due("probe without a program", -1, none.probe(0, -1, 0, 0));

@@ -1,4 +1,7 @@
-/** The edges that Terms 2 (A PROGRAM) names; ahead of each test stands the sentence that it is of, @ marks the place of a fault. */
+/**
+ * The edges that Terms 2 (A PROGRAM) names; ahead of each test stands the sentence that it is of, @ marks the place of a
+ * fault.
+ */
 public final class ProgramEdgeTest {
     private static final String GREATEST = "2000000000";
     private static final String BEGIN = "const K=5;const T=true;type Col=red,green,blue;type One=only;in i:0..9;in b:bool;"
@@ -136,7 +139,10 @@ public final class ProgramEdgeTest {
         }
     }
 
-    /** "INT from the one to the other, both from -2000000000 to 2000000000"; "4 the second C of a RANGE below the first .. (at it)". */
+    /**
+     * "INT from the one to the other, both from -2000000000 to 2000000000"; "4 the second C of a RANGE below the first ..
+     * (at it)".
+     */
     private static void endsOfRanges() {
         String[] kinds = {"in x:%;cycle{}", "fun f(x:%){}cycle{}", "fun f(x:%):%{return x;}cycle{}", "in x[2]:%;cycle{}",
             "fun f(x:%){var y:%=x;}cycle{}"};
@@ -166,7 +172,10 @@ public final class ProgramEdgeTest {
         Check.due("above", false, widest.input(0, 2000000001));
     }
 
-    /** "perhaps with - ahead (of INTS alone)"; "(- ahead of a MEMBER, or of a const that is no INT: at the -; - and true or false: 1 at these)". */
+    /**
+     * "perhaps with - ahead (of INTS alone)"; "(- ahead of a MEMBER, or of a const that is no INT: at the -; - and true or
+     * false: 1 at these)".
+     */
     private static void minusOfIntsAlone() {
         Check.due("- of 0", 0, Check.made("const a=-0;cycle{}").symbol(0, 7));
         Check.due("- of a const below 0", 7, Check.made("const a=-7;const c=-a;cycle{}").symbol(1, 7));
@@ -190,7 +199,10 @@ public final class ProgramEdgeTest {
         fault(5, "for n=@-red to 2{}");
     }
 
-    /** "PARAMETERS being nothing or N : TYPE with commas"; "a ninth parameter (at the name)"; "9 another number of ES .. at the )". */
+    /**
+     * "PARAMETERS being nothing or N : TYPE with commas"; "a ninth parameter (at the name)"; "9 another number of ES .. at
+     * the )".
+     */
     private static void parametersOrNone() {
         for (int many = 0; many <= 8; many++) {
             StringBuilder parameters = new StringBuilder();
@@ -317,7 +329,10 @@ public final class ProgramEdgeTest {
         }
     }
 
-    /** "NAMES are visible from behind their declaration's ; (a type's and its MEMBERS' at once, a for's, a parameter's from its BLOCK's {)". */
+    /**
+     * "NAMES are visible from behind their declaration's ; (a type's and its MEMBERS' at once, a for's, a parameter's from
+     * its BLOCK's {)".
+     */
     private static void visibleFromBehind() {
         Check.dueFault(3, "const a=@a;cycle{}");
         Check.dueFault(3, "const a=1;const d=-@d;cycle{}");
@@ -349,7 +364,10 @@ public final class ProgramEdgeTest {
         Check.dueFault(3, "fun f(){assert @x;}in x:bool;cycle{}");
     }
 
-    /** "to the end of their BLOCK (of const, type, MEMBERS, in, out, state, fun to the end; .. a parameter's BLOCK is its fun's, that of for its own)". */
+    /**
+     * "to the end of their BLOCK (of const, type, MEMBERS, in, out, state, fun to the end; .. a parameter's BLOCK is its
+     * fun's, that of for its own)".
+     */
     private static void visibleToTheEnd() {
         fault(3, "if(b){var v:bool=b;}f=@v;");
         fault(3, "if(b){var v:bool=b;}else{f=@v;}");
